@@ -6,7 +6,7 @@ import java.util.Random;
 
 /** Runs of 512 calls, by chance but the same each time, answered by the class and by the model. */
 public final class ModelTest {
-    private static final int RUNS = 400, CALLS = 512;
+    private static final int RUNS = 1000, CALLS = 512;
     private static final String[] DEEDS = {"spins", "spins", "spins", "goes", "passes", "covers", "forgives", "undo"};
     private static final Check check = new Check("ModelTest");
 
@@ -130,7 +130,7 @@ public final class ModelTest {
         if (chance.nextBoolean()) {
             item(text, "d" + blank(3) + (1 + chance.nextInt(9)));
         }
-        int people = Math.min(panes, chance.nextInt(7));
+        int people = Math.min(panes, chance.nextInt(3) == 0 ? 6 : chance.nextInt(7));
         int from = chance.nextInt(panes);
         for (int p = 0; p < people; p++) {
             item(text, "p" + blank(3) + (from + p) % panes + " " + blank(4) + (1 + chance.nextInt(5)));

@@ -121,6 +121,7 @@ public final class SeenHeardTest {
 
     private static void trying() {
         RoseWheel x = new RoseWheel();
+        check.due("tryNext() with all LAWS", x.tryNext(), 60);
         x.hears(60, 382);
         check.due("tryNext() with one LAW", x.tryNext(), 1);
         x.hears(60, 0);

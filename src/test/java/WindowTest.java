@@ -13,6 +13,7 @@ public final class WindowTest {
         faultsOfPanesAndLaw();
         faultsOfPeople();
         readingAnew();
+        readingAnewWhenMuchWasDone();
         refusedReading();
         panes();
         ones();
@@ -101,6 +102,10 @@ public final class WindowTest {
         text("x", -10);
         text("xc1;", -10);
         text("cc", -10);
+        text("ca1;", -10);
+        text("cz1;", -10);
+        text("ac1;", -10);
+        text("zc1;", -10);
         text("1;", -10);
         text(";", -10);
         text("c", -11);
@@ -198,6 +203,24 @@ public final class WindowTest {
         check.due("rose() of an empty text", x.rose(), 0);
         check.due("no PANES then", x.count(0), 0);
         check.due("nobody then", x.count(3), 0);
+        check.due("KEEPS then", x.count(1), 8);
+        check.due("DRAG then", x.count(2), 1);
+    }
+
+    private static void readingAnewWhenMuchWasDone() {
+        RoseWheel x = Check.told("k0;c1;c2;c3;p0 1;p1 2;p2 3;");
+        for (int n = 1; n <= 12; n++) {
+            x.spins(4);
+            x.passes(1);
+        }
+        x.covers(1);
+        Check.write(x, "c1;c2;c3;p0 1;p1 2;p2 3;");
+        x.rose();
+        for (int what = 0; what <= 4; what++) {
+            check.due("now(" + what + ") is as at first", x.now(what), 0);
+        }
+        check.due("PATIENCE is as at first", x.one(0, 3) + x.one(1, 3) + x.one(2, 3), 0);
+        check.due("nothing may be UNDONE", x.undo(), RoseWheel.STATE);
     }
 
     private static void refusedReading() {
