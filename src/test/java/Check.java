@@ -46,24 +46,33 @@ final class Check {
 
     /** All that can be asked of a wheel and changes nothing, as one text. */
     static String picture(RoseWheel x) {
-        StringBuilder all = new StringBuilder();
+        StringBuilder all = new StringBuilder(dayOf(x));
         for (int what = 0; what < 8; what++) {
-            all.append(x.count(what)).append(' ').append(x.now(what)).append(' ');
+            all.append(x.count(what)).append(' ');
         }
         for (int p = 0; p < 12; p++) {
             all.append(x.pane(p)).append(' ');
-        }
-        for (int p = 0; p < 6; p++) {
-            for (int what = 0; what < 5; what++) {
-                all.append(x.one(p, what)).append(' ');
-            }
-            for (int q = 0; q < 6; q++) {
-                all.append(x.owed(p, q)).append(' ');
-            }
         }
         for (int what = 0; what < 3; what++) {
             all.append(x.spun(what)).append(' ').append(x.laws(what)).append(' ');
         }
         return all.append(x.look()).append(' ').append(x.tryNext()).append(' ').append(x.trace()).toString();
+    }
+
+    /** What a wheel has NOW, and WANT with it. */
+    static String dayOf(RoseWheel x) {
+        StringBuilder day = new StringBuilder();
+        for (int what = 0; what < 7; what++) {
+            day.append(x.now(what)).append(' ');
+        }
+        for (int p = 0; p < 6; p++) {
+            for (int what = 0; what < 5; what++) {
+                day.append(x.one(p, what)).append(' ');
+            }
+            for (int q = 0; q < 6; q++) {
+                day.append(x.owed(p, q)).append(' ');
+            }
+        }
+        return day.toString();
     }
 }
