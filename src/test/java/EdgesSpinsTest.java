@@ -177,6 +177,11 @@ public final class EdgesSpinsTest {
         e.still("steps(0, 1, 12, 0)", 4);
         e.still("steps(1, 1, 12, 0)", 1);
         goesTo("c0;p0 1;", 1, NONE, NONE);
+        // wherever the only one is that somebody else has, the first and the last SPOT too
+        for (int other = 0; other < 12; other++) {
+            int own = other == 6 ? 5 : 6;
+            goesTo("k0;" + rubies(12, other) + "p" + own + " 1;p" + other + " 1;", 12, NONE, NONE);
+        }
     }
 
     private static void chairs() {
